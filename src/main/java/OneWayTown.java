@@ -208,7 +208,8 @@ public final class OneWayTown {
         }
         int before = present.people[house];
         present.people[house] = people;
-        keepAct();
+        // The streets stay, and so does what is worked out from them.
+        acts.keep(present);
         return before;
     }
 
@@ -665,8 +666,8 @@ public final class OneWayTown {
             int at = NONE;
             int street = 0;
             if (draft.count > 0) {
-                at = takeWord(Tape.AT) ? takeHouse() : NONE;
-                street = at != NONE && takeWord(Tape.STREET) ? takeNumber(1, LONGEST_STREET) : NONE;
+                at = takeToken(Tape.AT) ? takeHouse() : NONE;
+                street = at != NONE && takeToken(Tape.STREET) ? takeNumber(1, LONGEST_STREET) : NONE;
                 if (street == NONE) {
                     return false;
                 }
@@ -676,7 +677,7 @@ public final class OneWayTown {
                 tape.step();
                 people = takeNumber(0, MOST_PEOPLE);
             }
-            if (people == NONE || !takeWord(Tape.SIGN)) {
+            if (people == NONE || !takeToken(Tape.SIGN)) {
                 return false;
             }
             houseNames[draft.count] = name;
@@ -687,15 +688,15 @@ public final class OneWayTown {
         private boolean readCart() {
             tape.step();
             long name = tape.word;
-            if (!isNewName(cartNames, cartCount) || !takeWord(Tape.AT)) {
+            if (!isNewName(cartNames, cartCount) || !takeToken(Tape.AT)) {
                 return false;
             }
             int at = takeFreeHouse(cartAt, NONE);
-            if (at == NONE || !takeWord(Tape.TO)) {
+            if (at == NONE || !takeToken(Tape.TO)) {
                 return false;
             }
             int to = takeFreeHouse(cartTo, at);
-            if (to == NONE || !takeWord(Tape.SIGN)) {
+            if (to == NONE || !takeToken(Tape.SIGN)) {
                 return false;
             }
             cartNames[cartCount] = name;
@@ -708,7 +709,7 @@ public final class OneWayTown {
         private boolean readDraw() {
             tape.step();
             int seed = takeNumber(0, GREATEST_DRAW);
-            if (seed == NONE || !takeWord(Tape.SIGN)) {
+            if (seed == NONE || !takeToken(Tape.SIGN)) {
                 return false;
             }
             draft.seed = seed;
@@ -727,7 +728,7 @@ public final class OneWayTown {
             return true;
         }
 
-        private boolean takeWord(int kind) {
+        private boolean takeToken(int kind) {
             if (tape.kind != kind) {
                 return misplaced();
             }
