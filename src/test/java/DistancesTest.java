@@ -30,6 +30,13 @@ public final class DistancesTest {
         x.untell(3);
         Check.due("untold ones count", x.about(6), 40);
         Check.due("no room all the same", x.distance(0, 1, 5), -1);
+        Check.due("untell(39)", x.untell(39), true);
+        Check.due("untell(40)", x.untell(40), false);
+        Check.due("another town", x.town(), 0);
+        Check.due("untell(5) of none", x.untell(5), false);
+        Check.due("untell(0) of none", x.untell(0), false);
+        Check.due("the first again", x.distance(0, 1, 5), 0);
+        Check.due("untell(1) of one", x.untell(1), false);
     }
 
     private static void untelling() {
