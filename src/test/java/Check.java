@@ -6,8 +6,17 @@ final class Check {
 
     private static int passed;
     private static int failed;
+    private static String sentence = "";
 
     private Check() {
+    }
+
+    /**
+     * What is looked at from here on belongs to this sentence, of this part of the document;
+     * SentencesTest looks whether the sentence stands there, and whether one is missing.
+     */
+    static void says(String where, String words) {
+        sentence = where + ", '" + words + "': ";
     }
 
     static void due(String call, long got, long want) {
@@ -17,7 +26,7 @@ final class Check {
         }
         failed++;
         if (failed <= 50) {
-            System.out.println(call + " answered " + got + ", due is " + want);
+            System.out.println(sentence + call + " answered " + got + ", due is " + want);
         }
     }
 
