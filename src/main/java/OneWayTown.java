@@ -535,6 +535,7 @@ public final class OneWayTown {
                 kind = END;
             } else if (isLetter(spot)) {
                 readWord();
+                kind = spot - place > LONGEST_WORD ? NO_TOKEN : kindOfWord();
             } else if (isDigit(spot)) {
                 readNumber();
             } else {
@@ -558,7 +559,6 @@ public final class OneWayTown {
                 word = word << 5 | bytes[spot] & 31;
                 spot++;
             }
-            kind = spot - place > LONGEST_WORD ? NO_TOKEN : kindOfWord();
         }
 
         private void readNumber() {
@@ -639,22 +639,22 @@ public final class OneWayTown {
             tape.restart();
             boolean good = true;
             for (int line = 0; line < MOST_BYTES && good && tape.kind != Tape.END; line++) {
-                good = readLine();
+                switch (tape.kind) {
+                    case Tape.HOUSE:
+                        good = draft.count < MOST_HOUSES ? readHouse() : misplaced();
+                        break;
+                    case Tape.CART:
+                        good = cartCount < MOST_CARTS ? readCart() : misplaced();
+                        break;
+                    case Tape.DRAW:
+                        good = drawn ? misplaced() : readDraw();
+                        break;
+                    default:
+                        good = misplaced();
+                        break;
+                }
             }
             return good;
-        }
-
-        private boolean readLine() {
-            switch (tape.kind) {
-                case Tape.HOUSE:
-                    return draft.count < MOST_HOUSES ? readHouse() : misplaced();
-                case Tape.CART:
-                    return cartCount < MOST_CARTS ? readCart() : misplaced();
-                case Tape.DRAW:
-                    return drawn ? misplaced() : readDraw();
-                default:
-                    return misplaced();
-            }
         }
 
         private boolean readHouse() {

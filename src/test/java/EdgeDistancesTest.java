@@ -233,6 +233,10 @@ public final class EdgeDistancesTest {
         mended("the last pair of four", told(5, 5, 5, 5, 5, 11), 4, 23, 5);
         mended("998 and 1 are 999", told(1, 999, 500), 3, 1, 499);
         mended("none of four", told(1, 1, 1, 3, 3, 3), 4, -1, -1);
+        mended("0 would do, and can't be: the next pair", told(3, 5, 5, 5, 5, 10), 4, 2, 8);
+        mended("1 does", told(3, 6, 5, 6, 5, 10), 4, 1, 1);
+        mended("the nearest from below", told(1, 9, 9, 5, 5, 4), 4, 1, 4);
+        mended("the nearest from above", told(30, 9, 9, 5, 5, 4), 4, 1, 10);
         // Each pair of six alike but one: that one is mended, to what it was.
         for (int a = 0; a < 6; a++) {
             for (int b = a + 1; b < 6; b++) {

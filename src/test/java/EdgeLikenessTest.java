@@ -78,11 +78,38 @@ public final class EdgeLikenessTest {
         x.move(1, 0);
         x.move(2, 1);
         Check.due("as it was", x.alike(0, true), 1);
+        // No house is taken for two: streets of 1, 1, 2 and of 1, 2, 2 at one house.
+        x = Check.told("house a;house b at a street 1;house c at a street 2;");
+        x.grow(0, 1, 1);
+        x.image(0);
+        x.undo();
+        x.grow(0, 2, 1);
+        Check.due("1, 1, 2 and 1, 2, 2, lengths count", x.alike(0, true), 0);
+        Check.due("1, 1, 2 and 1, 2, 2, lengths left aside", x.alike(0, false), 1);
+        // Branches: a row of three and another one, or a row of three and a fork of three.
+        Check.due("a row is not a fork", alikeTold("house a;house b at a street 1;house c at b street 1;house d at c street 1;"
+                + "house e at a street 1;house f at e street 1;house g at f street 1;", 6, 4), 0);
+        // Seen from house 0, which is in a row of three: the other branches are no row, though the one come from is.
+        Check.due("the branch come from is used", alikeTold("house a;house b at a street 1;house c at b street 1;"
+                + "house d at a street 1;house e at d street 1;house f at d street 1;house g at f street 1;house h at g street 1;",
+                7, 5), 0);
         Check.due("full stars with other middles", alikeByMarks(14, 0, 0xddddddddddddL), 1);
         Check.due("full lanes", alikeByMarks(14, 0xcba987654321L, 0x123456789abcL), 1);
         Check.due("a full star and a full lane", alikeByMarks(14, 0, 0x123456789abcL), 0);
         // Like numbers of streets at the houses, another form: a side street of a lane of six at the second or third house.
         Check.due("at the second or the third house", alikeByMarks(7, 0x54321L, 0x54322L), 0);
+    }
+
+    /** Whether a town is like itself with a house moved: asked both ways round. */
+    private static int alikeTold(String text, int house, int at) {
+        OneWayTown x = Check.told(text);
+        x.image(0);
+        Check.due("it can be moved", x.move(house, at), true);
+        x.image(1);
+        int one = x.alike(0, true);
+        x.undo();
+        Check.due("the other way round", x.alike(1, true), one);
+        return one;
     }
 
     private static void likeItself() {
@@ -246,6 +273,16 @@ public final class EdgeLikenessTest {
         x.move(3, 0);
         joined("from elsewhere", x, 3, 100, 3, 1);
         Check.due("as it was", x.house(3, 0), 0);
+        // Asked one behind the other, of a long part and a short one, as of a new object each.
+        x = Check.told(Edge.lane(14, 9, 1));
+        int[] order = {7, 13, 1, 12, 6, 13, 2, 7, 1};
+        for (int house : order) {
+            OneWayTown fresh = Check.told(Edge.lane(14, 9, 1));
+            for (int what = 0; what < 3; what++) {
+                Check.due("behind others: joined(" + house + ", " + what + ")", x.joined(house, what), fresh.joined(house, what));
+            }
+        }
+        joined("behind others", x, 13, 108, 13, 1);
     }
 
     private static void joined(String when, OneWayTown x, int house, int longest, int inner, int outer) {

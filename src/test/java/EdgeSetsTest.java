@@ -130,6 +130,10 @@ public final class EdgeSetsTest {
         // In a town with two like sides one of them waits.
         Check.due("three from the middle", lane(3, 1, 1).news(1), 2);
         Check.due("five from the middle", lane(5, 1, 1).news(2), 3);
+        // The last of four neighbours needs longest: it is told first, the others behind it.
+        x = Check.told("house m;house a at m street 1;house b at m street 1;house c at m street 1;house d at m street 1;"
+                + "house e at d street 1;");
+        Check.due("2, then 1, 1, 1", x.news(0), 4);
     }
 
     private static void bestOfLikeOnes() {
@@ -143,6 +147,9 @@ public final class EdgeSetsTest {
         Check.due("the middle of five in a row is house 1", x.house(1, 3), 2);
         Check.due("3 hours from 0, 1 and 2", x.news(0) * 100 + x.news(1) * 10 + x.news(2), 333);
         Check.due("the first", x.bestNews(), 0);
+        // By streets' lengths it would be house 3.
+        x = Check.told("house a;house b at a street 1;house c at b street 1;house d at c street 99;house e at d street 1;");
+        Check.due("lengths don't matter", x.bestNews(), 1);
     }
 
     private static void tidingsSpread() {
@@ -162,6 +169,8 @@ public final class EdgeSetsTest {
         // It is told on while others are told, and who needs longest is told first.
         x = Check.told("house a;house b at a street 1;house c at a street 3;house d at a street 2;");
         Check.due("3, then 2, then 1", x.tidings(0), 3);
+        x = Check.told("house m;house a at m street 3;house b at m street 3;house c at m street 3;house d at m street 4;");
+        Check.due("4, then 3, 3, 3", x.tidings(0), 6);
     }
 
     private static void wellsAtMost() {

@@ -113,6 +113,17 @@ public final class EdgeTextTest {
                 + "house baaaaaaa at aaaaaaaa street 4;");
         Check.due("a name of seven letters", x.house(2, 0), 1);
         Check.due("a name of eight letters", x.house(3, 0), 0);
+        for (char one = 'a'; one <= 'z'; one++) {
+            for (char other = 'a'; other <= 'z'; other++) {
+                if (other != one) {
+                    Check.fault("house " + one + ";house " + other + " at " + one + " street 1;", 0, -1);
+                }
+                String two = "" + one + other;
+                if (!two.equals("at") && !two.equals("to")) {
+                    Check.fault("house " + two + ";house q at " + two + " street 1;house p at q street 1;", 0, -1);
+                }
+            }
+        }
     }
 
     private static void digits() {
@@ -197,6 +208,13 @@ public final class EdgeTextTest {
             Check.fault("house " + word + "s;", 0, -1);
             Check.fault("house x" + word + ";", 0, -1);
             Check.fault("house " + word.substring(1) + ";", 0, -1);
+        }
+        // One letter another one, and it is a name.
+        for (String word : OWN_WORDS) {
+            for (int place = 0; place < word.length(); place++) {
+                char other = word.charAt(place) == 'x' ? 'y' : 'x';
+                Check.fault("house " + word.substring(0, place) + other + word.substring(place + 1) + ";", 0, -1);
+            }
         }
         Check.fault("house line;house town at line street 1;house name at town street 1;house n at name street 1;", 0, -1);
     }
